@@ -12,9 +12,10 @@ final class Lakes {
         x.ice(cell, ice + melt);
     }
 
-    /** The climate in which just so many units melt of each cell whose surface is 100 and as many. */
+    /** The climate in which just so many units, up to 9 or 10 to 18 and even, melt of each cell of 100 and as many. */
     static void meltOf(IceLand x, int melt) {
-        x.climate(10 + (100 + melt) / 2, 0, melt);
+        int warmth = melt <= 9 ? 10 : 20;
+        x.climate(warmth + (100 + melt) / 2, 0, 10 * melt / warmth);
     }
 
     /** Three tongues, all whose water is in the middle one then; the sums of ice are those behind the melt. */
