@@ -292,22 +292,18 @@ public final class IceLand {
             }
         }
 
-        /** Copies all that a year depends on or changes; passing and burst are made anew in each year. */
+        /** Copies what the years to come depend on; the rest is made anew in each year, or is not asked of a trial. */
         void becomeLike(Land other) {
             year = other.year;
             level = other.level;
             warmth = other.warmth;
             snow = other.snow;
             factor = other.factor;
-            frontCell = other.frontCell;
             core.becomeLike(other.core);
-            sums.becomeLike(other.sums);
             System.arraycopy(other.bed, 0, bed, 0, CELLS);
             System.arraycopy(other.base, 0, base, 0, CELLS);
             System.arraycopy(other.water, 0, water, 0, CELLS);
             System.arraycopy(other.moraine, 0, moraine, 0, CELLS);
-            System.arraycopy(other.snowed, 0, snowed, 0, CELLS);
-            System.arraycopy(other.gain, 0, gain, 0, CELLS);
         }
 
         void goThroughYear() {
@@ -567,14 +563,6 @@ public final class IceLand {
         int melted;
         int toSea;
         int bergs;
-
-        void becomeLike(Sums other) {
-            fallen = other.fallen;
-            told = other.told;
-            melted = other.melted;
-            toSea = other.toSea;
-            bergs = other.bergs;
-        }
     }
 
     /** What is noted of the years that passed. */

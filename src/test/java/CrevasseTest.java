@@ -102,6 +102,11 @@ public final class CrevasseTest {
         earlier.pass(1);
         marks(check, "crevasses still", earlier, 5, 1, 1, 0);
         marks(check, "bare in the second", earlier, 6, 0, 0, 0);
+        IceLand warmer = heap(100, 3);
+        warmer.climate(300, 3, 0);
+        warmer.pass(1);
+        marks(check, "crevasses in a warm second year", warmer, 5, 1, 1, 0);
+        marks(check, "bare in a warm second year", warmer, 6, 0, 0, 0);
     }
 
     private static void marks(Check check, String when, IceLand x, int what, int... due) {

@@ -45,6 +45,14 @@ public final class Promise02Test {
         check.notNow("land(5, 500) on ice", () -> x.land(5, 500));
         check.notNow("land(4, 0) under water", () -> x.land(4, 0));
         check.same("refused calls change nothing", Check.stateOf(x), before);
+        IceLand y = new IceLand();
+        y.land(4, 90);
+        y.ice(4, 1);
+        y.climate(55, 0, 1);
+        y.pass(1);
+        check.same("one unit of water", y.cellIs(4, 2), 1);
+        check.same("and no ice", y.cellIs(4, 1), 0);
+        check.notNow("land(4, 90) under one unit of water", () -> y.land(4, 90));
     }
 
     private static void answersTheBedNotTheBase(Check check) {

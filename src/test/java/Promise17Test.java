@@ -21,7 +21,7 @@ public final class Promise17Test {
         x.ice(1, 300);
         x.ice(2, 100);
         x.ice(11, 40);
-        x.climate(45, 3, 4);
+        x.climate(70, 3, 4);
         x.pass(2);
         return x;
     }
@@ -30,6 +30,7 @@ public final class Promise17Test {
         IceLand asked = someLand();
         IceLand passed = someLand();
         passed.pass(years);
+        check.same("some of it melts", passed.total(1) + passed.total(2) > 0, true);
         for (int cell = 0; cell < 12; cell++) {
             for (int what = 0; what <= 9; what++) {
                 check.same("would(" + years + ", " + cell + ", " + what + ")", asked.would(years, cell, what),

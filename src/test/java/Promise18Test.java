@@ -20,6 +20,11 @@ public final class Promise18Test {
         x.pass(1);
         check.same("the ice then", x.total(0), 27);
         check.same("forecast(20)", x.forecast(20), 507);
+        IceLand y = new IceLand();
+        y.ice(5, 3);
+        y.climate(55, 9, 5);
+        check.same("forecast(1) of melting ice", y.forecast(1), 1);
+        check.same("forecast(2) of melting ice", y.forecast(2), 0);
     }
 
     private static void atMostTen(Check check) {

@@ -3,6 +3,7 @@ public final class Step2Test {
     public static void main(String[] args) {
         Check check = new Check("Step 2");
         goesByTheDifference(check);
+        roundsDown(check);
         slidesOnWater(check);
         atMostAFourth(check);
         alikeGivesNothing(check);
@@ -36,6 +37,27 @@ public final class Step2Test {
         w.pass(1);
         // To 4: 29 times 19 by 200; to 6: 19 times 19 by 200; 6 gives none to 7, as 10 times 10 by 200 is none.
         ices(check, "down a slope", w, 4, 2, 16, 11);
+    }
+
+    /** A cell whose surface is greater by 1 than those beside it: 1 times its ice, by 200. */
+    private static IceLand greaterByOne(int ice) {
+        IceLand x = new IceLand();
+        for (int cell = 0; cell < 12; cell++) {
+            x.land(cell, 300);
+        }
+        x.land(5, 301 - ice);
+        x.ice(5, ice);
+        for (int cell = 4; cell <= 6; cell += 2) {
+            x.land(cell, 297);
+            x.ice(cell, 3);
+        }
+        x.pass(1);
+        return x;
+    }
+
+    private static void roundsDown(Check check) {
+        ices(check, "199 by 200", greaterByOne(199), 4, 3, 199, 3);
+        ices(check, "200 by 200", greaterByOne(200), 4, 4, 198, 4);
     }
 
     private static void slidesOnWater(Check check) {

@@ -37,12 +37,20 @@ public final class Step4Test {
     }
 
     private static void atTheEnds(Check check) {
+        check.same("at the head, 12 against 13", cellOfFlood(0, 0, 13), 0);
+        check.same("at the head, 12 against 14", cellOfFlood(0, 0, 14), IceLand.NONE);
+        check.same("12 against 13 of the head", cellOfFlood(1, 13, 0), 1);
+        check.same("12 against 14 of the head", cellOfFlood(1, 14, 0), IceLand.NONE);
+        check.same("12 against 13 ahead of 11", cellOfFlood(10, 13, 0), 10);
+        check.same("12 against 14 ahead of 11", cellOfFlood(10, 14, 0), IceLand.NONE);
+    }
+
+    private static int cellOfFlood(int cell, int before, int behind) {
         IceLand x = new IceLand();
-        Lakes.addBetween(x, 0, 0, 13, 6);
+        Lakes.addBetween(x, cell, before, behind, 6);
         Lakes.meltOf(x, 6);
         x.pass(1);
-        check.same("at the head", x.floods(), 1);
-        check.same("cell of the flood", x.flood(0, 1), 0);
+        return x.floods() == 0 ? IceLand.NONE : x.flood(0, 1);
     }
 
     private static void iceStays(Check check) {

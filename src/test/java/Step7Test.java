@@ -24,6 +24,10 @@ public final class Step7Test {
         for (int year = 1; year <= 7; year++) {
             check.same("front(" + year + ")", x.front(year), new int[] {0, 5, 5, 5, 11, -1, -1, 2}[year]);
         }
+        IceLand y = new IceLand();
+        y.ice(0, 1);
+        y.pass(2);
+        check.same("moraine of the head", y.cellIs(0, 4), 2);
         check.end();
     }
 
