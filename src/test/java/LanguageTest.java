@@ -67,7 +67,8 @@ public final class LanguageTest {
 
     private static void staticsAreFinal(Check check, String code) {
         for (String line : code.split("\n")) {
-            boolean field = line.matches(".*\\bstatic\\b.*[=;]\\s*.*") && !line.contains("(") && !line.contains("class");
+            boolean field = line.matches(".*\\bstatic\\b.*[=;]\\s*.*") && !line.contains("(")
+                && !line.contains("class");
             if (field) {
                 check.same("static field: " + line.trim(),
                     line.matches(".*\\bstatic final (int|long|boolean|char|String)\\b.*"), true);
@@ -85,7 +86,8 @@ public final class LanguageTest {
             if (line.matches(".*\\bclass\\b.*\\{")) {
                 classes++;
                 fields = 0;
-            } else if (line.matches(" {4,8}(private )?(final )?[\\w\\[\\]]+ \\w+( = .*)?;") && !line.contains("return")) {
+            } else if (line.matches(" {4,8}(private )?(final )?[\\w\\[\\]]+ \\w+( = .*)?;")
+                && !line.contains("return")) {
                 fields++;
                 check.same("fields up to " + line.trim(), fields <= MOST_FIELDS, true);
             }

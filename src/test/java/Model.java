@@ -4,7 +4,8 @@ import java.util.TreeMap;
 
 /**
  * A second reckoning of the document, written from its words and not from the class: each cell is an object, each
- * core a map from years to units, a throw is one of the answers CELL, RANGE and STATE, and what would be is a copy of the whole model.
+ * core a map from years to units, a throw is one of the answers CELL, RANGE and STATE, and what would be is found
+ * in a copy of the whole model.
  */
 final class Model {
     static final long CELL = Long.MIN_VALUE;
