@@ -1,19 +1,54 @@
-/** Counts and prints the answers that are not the ones that are due. */
+import java.lang.reflect.InvocationTargetException;
+import java.lang.reflect.Method;
+import java.util.Arrays;
+import java.util.Comparator;
+
+/** Runs the tests of a class, and counts and prints the answers that are not the ones that are due. */
 final class Check {
+    /** A call on a land. */
     interface Call {
-        void run();
+        void on(IceLand x);
     }
 
-    private final String name;
+    private String name;
     private int wrong;
 
     Check(String name) {
         this.name = name;
     }
 
+    /** Runs each method of a class that is marked as Said, and ends the machine if an answer was wrong. */
+    static void run(Class<?> tests) {
+        Check check = new Check(tests.getSimpleName());
+        Method[] methods = tests.getDeclaredMethods();
+        Arrays.sort(methods, Comparator.comparing(Method::getName));
+        boolean any = false;
+        for (Method method : methods) {
+            if (method.isAnnotationPresent(Said.class)) {
+                any = true;
+                check.name = tests.getSimpleName() + "." + method.getName();
+                check.runOne(method);
+            }
+        }
+        if (!any) {
+            check.wrong("there is no test");
+        }
+        check.end();
+    }
+
+    private void runOne(Method method) {
+        try {
+            method.invoke(null, this);
+        } catch (InvocationTargetException e) {
+            wrong("threw " + e.getCause());
+        } catch (IllegalAccessException e) {
+            wrong("can't be run: " + e);
+        }
+    }
+
     void same(String call, long got, long due) {
         if (got != due) {
-            wrong("" + call + " answered " + got + ", due is " + due);
+            wrong(call + " answered " + got + ", due is " + due);
         }
     }
 
@@ -27,27 +62,68 @@ final class Check {
         }
     }
 
-    void noCell(String call, Call made) {
-        throwsJust(call, IndexOutOfBoundsException.class, made);
-    }
-
-    void outOfRange(String call, Call made) {
-        throwsJust(call, IllegalArgumentException.class, made);
-    }
-
-    void notNow(String call, Call made) {
-        throwsJust(call, IllegalStateException.class, made);
-    }
-
-    private void throwsJust(String call, Class<?> due, Call made) {
-        Class<?> got = null;
-        try {
-            made.run();
-        } catch (RuntimeException e) {
-            got = e.getClass();
+    /** What cellIs(cell, what) answers of as many cells, from the first one on. */
+    void cells(String when, IceLand x, int what, int first, int... due) {
+        for (int i = 0; i < due.length; i++) {
+            same(when + ": cellIs(" + (first + i) + ", " + what + ")", x.cellIs(first + i, what), due[i]);
         }
+    }
+
+    /** There is no such cell, flood or forecast, in no scene: the call throws just that, and changes nothing. */
+    void noSuch(String call, Call made) {
+        for (Scene scene : Scene.values()) {
+            noSuch(scene, call, made);
+        }
+    }
+
+    void noSuch(Scene scene, String call, Call made) {
+        refused(scene, call, IndexOutOfBoundsException.class, made);
+    }
+
+    /** An argument is out of range, in each scene. */
+    void outOfRange(String call, Call made) {
+        for (Scene scene : Scene.values()) {
+            outOfRange(scene, call, made);
+        }
+    }
+
+    void outOfRange(Scene scene, String call, Call made) {
+        refused(scene, call, IllegalArgumentException.class, made);
+    }
+
+    void notNow(Scene scene, String call, Call made) {
+        refused(scene, call, IllegalStateException.class, made);
+    }
+
+    /** Not now, on a land that is asked further by the test itself. */
+    void notNow(IceLand x, String call, Call made) {
+        due(call, thrownBy(made, x), IllegalStateException.class);
+    }
+
+    private boolean due(String call, Class<?> got, Class<?> due) {
         if (got != due) {
             wrong(call + " threw " + (got == null ? "nothing" : got.getName()) + ", due is " + due.getName());
+        }
+        return got == due;
+    }
+
+    private void refused(Scene scene, String call, Class<?> due, Call made) {
+        for (Question question : Question.values()) {
+            IceLand x = scene.make();
+            if (!due(scene + ": " + call, thrownBy(made, x), due)) {
+                return;
+            }
+            same(scene + ": of " + question + " the refused " + call + " changes nothing", question.askedOf(x),
+                question.askedAtFirst(scene));
+        }
+    }
+
+    private static Class<?> thrownBy(Call made, IceLand x) {
+        try {
+            made.on(x);
+            return null;
+        } catch (RuntimeException e) {
+            return e.getClass();
         }
     }
 
@@ -58,29 +134,8 @@ final class Check {
 
     void end() {
         if (wrong != 0) {
-            System.out.println(name + ": " + wrong + " wrong");
+            System.out.println(wrong + " wrong");
             System.exit(1);
         }
-    }
-
-    /** What can be asked of an object without many calls, in one text: some 300 calls. */
-    static String stateOf(IceLand x) {
-        StringBuilder text = new StringBuilder();
-        for (int cell = 0; cell < 12; cell++) {
-            text.append("\n  cell ").append(cell).append(':');
-            for (int what = 0; what <= 9; what++) {
-                text.append(' ').append(x.cellIs(cell, what));
-            }
-            text.append(" layers");
-            for (int year = 0; year <= 2; year++) {
-                text.append(' ').append(x.layer(cell, year));
-            }
-        }
-        text.append("\n  totals:");
-        for (int what = 0; what <= 5; what++) {
-            text.append(' ').append(x.total(what));
-        }
-        text.append(" anew ").append(x.iceAnew()).append(" floods ").append(x.floods());
-        return text.toString();
     }
 }

@@ -1,27 +1,47 @@
 /** Promise 12: floods. */
 public final class Promise12Test {
+    private static final String MANY = "Returns how many FLOODS there were.";
+
     public static void main(String[] args) {
-        Check check = new Check("Promise 12");
+        Check.run(Promise12Test.class);
+    }
+
+    private static IceLand twoLakes() {
         IceLand x = new IceLand();
-        check.same("none at first", x.floods(), 0);
         Lakes.addBetween(x, 2, 19, 20, 6);
         Lakes.addBetween(x, 8, 20, 19, 6);
         Lakes.meltOf(x, 6);
-        check.same("none foreseen by asking", x.would(3, 2, 2), 0);
-        check.same("none noted by asking", x.floods(), 0);
-        x.forecast(3);
-        check.same("none noted by a forecast", x.floods(), 0);
+        return x;
+    }
+
+    @Said(under = "Promise 12", value = MANY)
+    static void areNoneAtFirst(Check check) {
+        check.same("of a new object", new IceLand().floods(), 0);
+        check.same("ahead of the year", twoLakes().floods(), 0);
+    }
+
+    @Said(under = "Promise 12", value = MANY)
+    static void areMoreByEachOne(Check check) {
+        IceLand x = twoLakes();
         x.pass(1);
         check.same("two in one year", x.floods(), 2);
         x.climate(0, 0, 0);
         x.pass(3);
         check.same("none later", x.floods(), 2);
-        many(check);
-        check.end();
+    }
+
+    @Said(under = "Promise 12", value = MANY)
+    static void areNoneByAsking(Check check) {
+        IceLand x = twoLakes();
+        check.same("would(3, 2, 2)", x.would(3, 2, 2), 0);
+        check.same("none noted by asking", x.floods(), 0);
+        x.forecast(3);
+        check.same("none noted by a forecast", x.floods(), 0);
     }
 
     /** All cells are alike: 10 units fall on each in one year and melt in the next, and break out but for cell 11. */
-    private static void many(Check check) {
+    @Said(under = "Promise 12", value = MANY)
+    static void areAsManyAsAllYearsBring(Check check) {
         IceLand x = new IceLand();
         for (int cell = 0; cell < 12; cell++) {
             x.ice(cell, 5);
@@ -38,5 +58,6 @@ public final class Promise12Test {
             check.same("cell of " + flood, x.flood(flood, 1), flood % 11);
             check.same("units of " + flood, x.flood(flood, 2), 10);
         }
+        check.same("year of the last", x.flood(329, 0), 60);
     }
 }

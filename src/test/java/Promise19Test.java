@@ -1,39 +1,112 @@
 /** Promise 19: miss. */
 public final class Promise19Test {
+    private static final String MISS = "Returns the miss of a forecast.";
+    private static final String NOT_YET = "Returns the miss; NONE if that year has not passed.";
+    private static final String NO_FORECAST = "Throws `IndexOutOfBoundsException` if there is no such forecast";
+
     public static void main(String[] args) {
-        Check check = new Check("Promise 19");
+        Check.run(Promise19Test.class);
+    }
+
+    /** Three units are forecast for the years 2, 1 and 20. */
+    private static IceLand land() {
         IceLand x = new IceLand();
-        check.noCell("miss(0) ahead of any", () -> x.miss(0));
         x.ice(3, 3);
-        check.same("forecast(2)", x.forecast(2), 3);
-        check.same("forecast(1)", x.forecast(1), 3);
-        check.same("not passed", x.miss(0), IceLand.NONE);
-        check.same("not passed either", x.miss(1), IceLand.NONE);
+        x.forecast(2);
+        x.forecast(1);
+        x.forecast(20);
+        return x;
+    }
+
+    @Said(under = "Promise 19", value = MISS)
+    static void is0IfAllCameAsForecast(Check check) {
+        IceLand x = land();
+        x.pass(20);
+        check.same("of the year 2", x.miss(0), 0);
+        check.same("of the year 1", x.miss(1), 0);
+        check.same("of the year 20", x.miss(2), 0);
+    }
+
+    @Said(under = "Promise 19", value = MISS)
+    static void isWithoutSignIfMoreCame(Check check) {
+        IceLand x = land();
         x.ice(8, 2);
         x.pass(1);
-        check.same("one of two has passed", x.miss(0), IceLand.NONE);
-        check.same("more came than was forecast", x.miss(1), 2);
-        x.ice(9, 2);
-        check.same("whatever is told later", x.miss(1), 2);
+        check.same("2 units more", x.miss(1), 2);
+    }
+
+    @Said(under = "Promise 19", value = MISS)
+    static void isWithoutSignIfLessCame(Check check) {
+        IceLand x = land();
         x.climate(300, 0, 9);
         x.pass(1);
-        check.same("less came than was forecast", x.miss(0), 3);
-        x.climate(0, 0, 0);
-        x.ice(0, 999);
-        x.pass(3);
-        check.same("the miss stays", x.miss(0), 3);
-        check.same("the other miss stays", x.miss(1), 2);
-        int expected = x.forecast(20);
-        check.same("forecast of a later year", expected, 999);
-        x.pass(19);
-        check.same("a year ahead", x.miss(2), IceLand.NONE);
+        check.same("3 units less", x.miss(1), 3);
+    }
+
+    @Said(under = "Promise 19", value = NOT_YET)
+    static void isNoneUntilItsYear(Check check) {
+        IceLand x = land();
+        check.same("at once", x.miss(1), IceLand.NONE);
         x.pass(1);
-        check.same("just as forecast", x.miss(2), 0);
-        check.noCell("miss(-1)", () -> x.miss(-1));
-        check.noCell("miss(3)", () -> x.miss(3));
-        check.noCell("miss(10)", () -> x.miss(10));
-        check.noCell("miss(MIN)", () -> x.miss(Integer.MIN_VALUE));
-        check.noCell("miss(MAX)", () -> x.miss(Integer.MAX_VALUE));
-        check.end();
+        check.same("of the year 1 in the year 1", x.miss(1), 0);
+        check.same("of the year 2 in the year 1", x.miss(0), IceLand.NONE);
+        x.pass(1);
+        check.same("of the year 2 in the year 2", x.miss(0), 0);
+        x.pass(17);
+        check.same("of the year 20 in the year 19", x.miss(2), IceLand.NONE);
+        x.pass(1);
+        check.same("of the year 20 in the year 20", x.miss(2), 0);
+    }
+
+    @Said(under = "Promise 19", value = NOT_YET)
+    static void isOfTheYear60(Check check) {
+        IceLand x = Scene.LATE.make();
+        int number = Scene.LATE.forecasts;
+        x.forecast(19);
+        x.pass(18);
+        check.same("in the year 59", x.miss(number), IceLand.NONE);
+        x.pass(1);
+        check.same("in the year 60", x.miss(number), 0);
+    }
+
+    @Said(under = "Promise 19", value = NOT_YET)
+    static void isNoneWhateverWouldBe(Check check) {
+        IceLand x = land();
+        x.would(20, 3, 1);
+        x.forecast(20);
+        check.same("no year has passed by asking", x.miss(1), IceLand.NONE);
+    }
+
+    @Said(under = "Promise 19", value = NO_FORECAST)
+    static void refusesWhereThereIsNone(Check check) {
+        check.noSuch(Scene.NEW, "miss(0)", x -> x.miss(0));
+        check.noSuch(Scene.PUDDLE, "miss(0)", x -> x.miss(0));
+    }
+
+    @Said(under = "Promise 19", value = NO_FORECAST)
+    static void refusesTheOneBehindTheLast(Check check) {
+        for (Scene scene : Scene.values()) {
+            int next = scene.forecasts;
+            check.noSuch(scene, "miss(" + next + ")", x -> x.miss(next));
+        }
+    }
+
+    @Said(under = "Promise 19", value = NO_FORECAST)
+    static void refusesNumbersFarOff(Check check) {
+        check.noSuch("miss(-1)", x -> x.miss(-1));
+        check.noSuch("miss(10)", x -> x.miss(10));
+        check.noSuch("miss(MIN)", x -> x.miss(Integer.MIN_VALUE));
+        check.noSuch("miss(MAX)", x -> x.miss(Integer.MAX_VALUE));
+    }
+
+    @Said(under = "Promise 19", value = NO_FORECAST)
+    static void refusesOneThatWasRefused(Check check) {
+        check.noSuch(Scene.FULL, "miss(10) behind a refused forecast", x -> {
+            try {
+                x.forecast(1);
+            } catch (IllegalStateException e) {
+                x.miss(10);
+            }
+        });
     }
 }

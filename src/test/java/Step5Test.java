@@ -1,49 +1,81 @@
 /** Step 5 of a year: calving. */
 public final class Step5Test {
+    private static final String CALVES = "The CELLS are looked at from 11 to 0, till one does not STAND IN THE SEA, "
+        + "or has ICE and does not float; one with ICE floats, if 9 times its ICE is less than 10 times what its BED "
+        + "is below the level: all its ICE becomes BERGS then.";
+
     public static void main(String[] args) {
-        Check check = new Check("Step 5");
-        check.same("999 against 1000: floats", bergsAtEnd(100, 111), 111);
-        check.same("1008 against 1000: grounded", bergsAtEnd(100, 112), 0);
-        check.same("900 against 900: grounded", bergsAtEnd(110, 100), 0);
-        goesInland(check);
-        stopsAtLand(check);
-        stopsAtGrounded(check);
-        behindTheFlow(check);
-        check.end();
+        Check.run(Step5Test.class);
     }
 
     /** The bergs of cell 11 in a sea of 200, beside dry land of the same surface. */
-    private static int bergsAtEnd(int bed, int ice) {
+    private static int bergsAtEnd(Check check, int bed, int ice) {
         IceLand x = new IceLand();
         x.sea(200);
         x.land(11, bed);
         x.ice(11, ice);
         x.land(10, bed + ice);
         x.pass(1);
-        if (x.total(0) + x.total(3) != ice || x.layer(11, 0) != x.total(0) || x.cellIs(11, 1) != x.total(0)) {
-            throw new IllegalStateException("ice and bergs are not what was told");
-        }
+        check.same("ice and bergs", x.total(0) + x.total(3), ice);
+        check.same("layer", x.layer(11, 0), x.total(0));
+        check.same("ice of the end", x.cellIs(11, 1), x.total(0));
         return x.total(3);
     }
 
-    private static void goesInland(Check check) {
+    @Said(under = "A year", value = CALVES)
+    static void floatsIfNineTimesIsLessThanTenTimes(Check check) {
+        check.same("999 against 1000", bergsAtEnd(check, 100, 111), 111);
+        check.same("9 against 10", bergsAtEnd(check, 199, 1), 1);
+    }
+
+    @Said(under = "A year", value = CALVES)
+    static void standsOnTheGroundIfBothAreAlike(Check check) {
+        check.same("900 against 900", bergsAtEnd(check, 110, 100), 0);
+        check.same("90 against 90", bergsAtEnd(check, 191, 10), 0);
+    }
+
+    @Said(under = "A year", value = CALVES)
+    static void standsOnTheGroundIfItIsMore(Check check) {
+        check.same("1008 against 1000", bergsAtEnd(check, 100, 112), 0);
+        check.same("18 against 10", bergsAtEnd(check, 199, 2), 0);
+    }
+
+    @Said(under = "A year", value = CALVES)
+    static void allItsIceBecomesBergs(Check check) {
+        IceLand x = new IceLand();
+        x.sea(250);
+        x.ice(11, 4);
+        x.climate(-300, 3, 0);
+        // Dry land ahead, upon which snow falls.
+        x.land(10, 250);
+        x.pass(1);
+        check.same("bergs", x.total(3), 7);
+        check.same("ice", x.cellIs(11, 1), 0);
+        check.same("layer of the year 0", x.layer(11, 0), 0);
+        check.same("layer of the year 1", x.layer(11, 1), 0);
+        check.same("no core", x.yearAt(11, 0), IceLand.NONE);
+    }
+
+    @Said(under = "A year", value = CALVES)
+    static void goesOnOverCellsWithoutIceUpToTheHead(Check check) {
         IceLand x = new IceLand();
         x.sea(200);
         x.ice(10, 3);
         x.ice(0, 2);
         x.pass(1);
-        check.same("over cells without ice, up to the head", x.total(3), 5);
+        check.same("bergs", x.total(3), 5);
         check.same("no ice left", x.total(0), 0);
         check.same("no front", x.front(1), IceLand.NONE);
     }
 
-    private static void stopsAtLand(Check check) {
+    @Said(under = "A year", value = CALVES)
+    static void endsAtOneThatDoesNotStandInTheSea(Check check) {
         IceLand x = new IceLand();
         x.sea(200);
         x.land(11, 200);
         x.ice(10, 3);
         x.pass(1);
-        check.same("behind dry land nothing calves", x.total(3), 0);
+        check.same("behind an end at the level", x.total(3), 0);
         IceLand y = new IceLand();
         y.sea(200);
         y.land(5, 200);
@@ -52,24 +84,18 @@ public final class Step5Test {
         y.pass(1);
         check.same("down to dry land alone", y.total(3), 3);
         IceLand z = new IceLand();
-        z.sea(200);
-        z.land(11, 199);
-        z.ice(11, 1);
+        z.ice(11, 3);
         z.pass(1);
-        check.same("9 against 10", z.total(3), 1);
-        IceLand w = new IceLand();
-        w.sea(200);
-        w.land(11, 199);
-        w.ice(11, 2);
-        w.ice(9, 2);
-        w.pass(1);
-        check.same("18 against 10", w.total(3), 0);
+        check.same("without a sea", z.total(3), 0);
     }
 
-    private static void stopsAtGrounded(Check check) {
-        check.same("a grounded tongue keeps those inland", bergs(91, 121, 100, 112), 0);
-        check.same("a floating one goes ahead of it", bergs(100, 112, 91, 121), 121);
-        check.same("two floating ones", bergs(91, 121, 91, 121), 242);
+    @Said(under = "A year", value = CALVES)
+    static void dryLandWithIceDoesNotCalve(Check check) {
+        IceLand x = new IceLand();
+        x.sea(100);
+        x.ice(11, 1);
+        x.pass(1);
+        check.same("a bed at the level", x.total(3), 0);
     }
 
     /** The bergs of cells 10 and 11 whose surfaces are 212, in a sea of 200. */
@@ -85,16 +111,36 @@ public final class Step5Test {
         return x.total(3);
     }
 
-    /** Snow and flow of this year calve too. */
-    private static void behindTheFlow(Check check) {
+    @Said(under = "A year", value = CALVES)
+    static void endsAtOneThatDoesNotFloat(Check check) {
+        check.same("a grounded tongue keeps those inland", bergs(91, 121, 100, 112), 0);
+        check.same("a floating one goes ahead of it", bergs(100, 112, 91, 121), 121);
+        check.same("two floating ones", bergs(91, 121, 91, 121), 242);
+    }
+
+    @Said(under = "A year", value = CALVES)
+    static void floatsInASeaOf0WhereTheBedSankBelowIt(Check check) {
+        IceLand y = sunkenByTwo();
+        check.same("bed", y.cellIs(11, 0), -2);
+        y.ice(11, 2);
+        y.climate(0, 0, 0);
+        y.pass(1);
+        check.same("18 against 20", y.total(3), 2);
+        IceLand z = sunkenByTwo();
+        z.ice(11, 3);
+        z.climate(0, 0, 0);
+        z.pass(1);
+        check.same("27 against 20", z.total(3), 0);
+    }
+
+    /** A bed of -2 at the end, told as 0, without ice. */
+    private static IceLand sunkenByTwo() {
         IceLand x = new IceLand();
-        x.sea(100);
-        x.land(11, 99);
-        x.land(10, 100);
-        x.ice(10, 15);
+        x.land(11, 0);
+        x.ice(11, 9);
+        x.pass(3);
+        x.climate(300, 0, 9);
         x.pass(1);
-        // 15 times 15 by 200 to cell 9, 16 times 15 by 200 to cell 11, where 9 is less than 10.
-        check.same("what came in this year", x.total(3), 1);
-        check.same("ice of 10", x.cellIs(10, 1), 13);
+        return x;
     }
 }
