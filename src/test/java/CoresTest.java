@@ -93,6 +93,17 @@ public final class CoresTest {
     }
 
     @Said(under = "Cores, forecasts", value = WOULD)
+    static void noMoraineGrowsByAsking(Check check) {
+        IceLand x = new IceLand();
+        x.ice(0, 1);
+        check.same("would(5, 0, 4)", x.would(5, 0, 4), 5);
+        x.forecast(5);
+        check.cells("moraine of the head", x, 4, 0, 0, 0);
+        x.pass(1);
+        check.cells("moraine behind a year", x, 4, 0, 1, 0);
+    }
+
+    @Said(under = "Cores, forecasts", value = WOULD)
     static void askedTwiceItIsTheSame(Check check) {
         IceLand x = Scene.LIVELY.make();
         for (int what = 0; what <= 9; what++) {
