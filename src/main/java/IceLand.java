@@ -120,7 +120,9 @@ public final class IceLand {
     /** Promise 10: returns the year of the unit of ice at a depth, 0 the uppermost; NONE below the ice. */
     public int yearAt(int cell, int depth) throws IndexOutOfBoundsException, IllegalArgumentException {
         needCell(cell);
-        needWithin(depth, 0, Integer.MAX_VALUE);
+        if (depth < 0) {
+            throw new IllegalArgumentException("the depth is below 0");
+        }
         return present.core.yearBelow(cell, depth);
     }
 
@@ -401,9 +403,9 @@ public final class IceLand {
                 gain[cell] -= units;
                 gain[cell + 1] += units;
                 if (units > 0) {
-                    core.carry(cell, cell + 1, units);
+                    core.carryEarliest(cell, cell + 1, units);
                 } else if (units < 0) {
-                    core.carry(cell + 1, cell, -units);
+                    core.carryEarliest(cell + 1, cell, -units);
                 }
             }
         }
@@ -532,8 +534,7 @@ public final class IceLand {
             }
         }
 
-        /** Takes the earliest years of the giver into the same years of the taker. */
-        void carry(int giver, int taker, int amount) {
+        void carryEarliest(int giver, int taker, int amount) {
             int left = amount;
             for (int year = 0; year < YEARS && left > 0; year++) {
                 int moved = Math.min(left, unitsOf(giver, year));

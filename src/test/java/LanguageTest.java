@@ -47,9 +47,16 @@ public final class LanguageTest {
     private static void libraryIsKnown(Check check, String code) {
         Matcher call = Pattern.compile("\\b(Math|System|Integer|Long|Arrays)\\.(\\w+)").matcher(code);
         while (call.find()) {
-            boolean known = List.of("Math.floorDiv", "Math.min", "Math.max", "Math.abs", "System.arraycopy",
-                "Integer.MAX_VALUE").contains(call.group());
+            boolean known = List.of("Math.floorDiv", "Math.min", "Math.max", "Math.abs", "System.arraycopy")
+                .contains(call.group());
             check.same("use of " + call.group(), known, true);
+        }
+        Matcher type = Pattern.compile("\\b[A-Z]\\w*[a-z]\\w*").matcher(code);
+        while (type.find()) {
+            boolean known = code.contains("class " + type.group() + " {") || List.of("Math", "System",
+                "IndexOutOfBoundsException", "IllegalArgumentException", "IllegalStateException")
+                .contains(type.group());
+            check.same("use of " + type.group(), known, true);
         }
     }
 
